@@ -313,10 +313,14 @@ public final class SignRow {
         return perform(writer, TYPE, sign, fresh, fresh);
     }
 
-    /** Adds a deed, for which there is room, does it at its own replica and sends it to the others. */
+    /**
+     * Adds a deed, for which there is room, does it at its own replica and sends it to the others.
+     * Nothing that waits there can come to be done by that: it names older signs alone, and is
+     * another's.
+     */
     private int perform(Replica doer, int sort, int value, int from, int to) {
         int d = deeds.add(doer.site, doer.nextNumber(), doer.time + 1, sort, value, from, to);
-        doer.receive(d);
+        doer.carryOut(d);
         for (int r = 0; r < REPLICAS; r++) {
             if (r != doer.site) {
                 way.send(d, r);
@@ -372,7 +376,7 @@ public final class SignRow {
         }
 
         boolean isLater(int d, int than) {
-            return time[d] > time[than] || time[d] == time[than] && owner[d] > owner[than];
+            return time[d] > time[than] || (time[d] == time[than] && owner[d] > owner[than]);
         }
 
         /** A replica's own times only rise, so its latest is the one with the greatest number. */
@@ -579,7 +583,7 @@ public final class SignRow {
             if (deeds.number[d] - 1 != doneOf[deeds.owner[d]]) {
                 return false;
             }
-            return deeds.sort[d] == TYPE || didDeed(deeds.from[d]) && didDeed(deeds.to[d]);
+            return deeds.sort[d] == TYPE || (didDeed(deeds.from[d]) && didDeed(deeds.to[d]));
         }
 
         /** A deed comes: whether it is done, waits, or is nothing. */
@@ -618,7 +622,7 @@ public final class SignRow {
             return NONE;
         }
 
-        private void carryOut(int d) {
+        void carryOut(int d) {
             doneOf[deeds.owner[d]]++;
             time = Math.max(time, deeds.time[d]);
             int sort = deeds.sort[d];

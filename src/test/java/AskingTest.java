@@ -9,6 +9,7 @@ public final class AskingTest {
         signs();
         paths();
         kindsOfTheLatest();
+        kindsByTimesNotNumbers();
         kindsBetweenPaths();
         kindsWrongly();
         cursors();
@@ -117,6 +118,19 @@ public final class AskingTest {
         }
         check.due("all kinds", 255, y.kinds(1, 1));
         check.due("none", 0, y.kinds(1, 0));
+    }
+
+    private static void kindsByTimesNotNumbers() {
+        SignRow x = new SignRow();
+        x.type(0, 0, 97);
+        x.sync(1, 0);
+        x.mark(0, 0, 0, 3, false);
+        x.mark(0, 0, 0, 3, true);
+        check.due("1's mark has the greatest number, but time 2", 2, x.deed(x.mark(1, 0, 0, 3, false), 2));
+        x.sync(0, 1);
+        x.sync(1, 0);
+        check.due("0's mark of time 3 is later", 8, x.kinds(0, 0));
+        check.due("there too", 8, x.kinds(1, 0));
     }
 
     private static void kindsBetweenPaths() {

@@ -150,6 +150,10 @@ public final class WritingTest {
         z.stream(0, Check.streamFor(9));
         z.type(0, 1, 67);
         check.path("9 modulo 9", z, 0, 1, 2, 0, 3);
+        typeBy(z, 2, 0, 2, 68);
+        check.path("1 modulo 8", z, 0, 2, 4, 0, 4);
+        typeBy(z, 7, 0, 2, 69);
+        check.path("one digit is free", z, 0, 2, 3, 0, 5);
     }
 
     private static void pathsBetweenReplicas() {
@@ -371,6 +375,17 @@ public final class WritingTest {
         check.text("1's erase, of time 2, came later but is not", y, 0, "a");
         y.sync(1, 0);
         check.text("so it is there", y, 1, "a");
+
+        SignRow w = new SignRow();
+        w.type(0, 0, 97);
+        w.sync(1, 0);
+        w.erase(0, 0);
+        w.undo(0);
+        check.due("1's erase has the greatest number, but time 2", 2, w.deed(w.erase(1, 0), 2));
+        w.sync(0, 1);
+        w.sync(1, 0);
+        check.text("0's raise of time 3 is later", w, 0, "a");
+        check.text("there too", w, 1, "a");
 
         SignRow z = new SignRow();
         z.type(0, 0, 97);
