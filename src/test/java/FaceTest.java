@@ -136,7 +136,7 @@ public final class FaceTest {
 
     private static void everyCall(SignRow x) {
         int answers = 0;
-        for (int i = 0; i < 25; i++) {
+        for (int i = 0; i < 23; i++) {
             int r = i % 6;
             answers += x.stream(r, i) + x.type(r, 0, 65) + x.paste(r, 0, 10, 65) + x.erase(r, 1) + x.undo(r)
                     + x.mark(r, 0, 1, 2, true) + x.deliver(0) + x.deliver(9) + x.lose(0) + x.repeat(0)

@@ -2,14 +2,17 @@ import java.util.Random;
 
 /** Runs of calls by chance (always the same ones), each answer beside that of the plain model. */
 public final class ModelTest {
-    private static final int RUNS = 90;
-    private static final int CALLS = 512;
+    private static final int RUNS = 240;
+    /** An object answers 512 calls as promised, and a question for a sign is three of them. */
+    private static final int CALLS = 510;
+    private static final int LAST_CHANGE = 420;
 
     private final Check check = new Check();
     private Random random;
     private SignRow row;
     private Model model;
     private String run;
+    private int calls;
     /** How likely each call is in this run: runs of unlike temper come to unlike edges. */
     private int[] weights;
     private int replicas;
@@ -41,10 +44,14 @@ public final class ModelTest {
         weights = TEMPERS[seed % TEMPERS.length];
         replicas = 1 + random.nextInt(6);
         steep = seed % TEMPERS.length == 1;
-        for (int i = 0; i < CALLS; i++) {
+        calls = 0;
+        while (calls < LAST_CHANGE) {
             change();
         }
-        askAll();
+        while (calls < CALLS) {
+            int r = replica();
+            ask(r, placeIn(r));
+        }
     }
 
     private void change() {
@@ -66,7 +73,7 @@ public final class ModelTest {
         int place = placeIn(r);
         switch (which) {
             case 0 -> {
-                int v = steep ? Check.streamFor(10 * random.nextInt(3)) : random.nextInt();
+                int v = steep ? Given.streamFor(10 * random.nextInt(3)) : random.nextInt();
                 due("stream(" + r + ", " + v + ")", model.stream(r, v), row.stream(r, v));
             }
             case 1 -> {
@@ -112,7 +119,7 @@ public final class ModelTest {
     private void ask(int r, int place) {
         int k = random.nextInt(6) - 1;
         int q = replica();
-        switch (random.nextInt(8)) {
+        switch (random.nextInt(9)) {
             case 0 -> due("cursor(" + r + ", " + k + ", " + place + ")", model.cursor(r, k, place), row.cursor(r, k, place));
             case 1 -> due("at(" + r + ", " + k + ")", model.at(r, k), row.at(r, k));
             case 2 -> askSign(r, place, random.nextInt(15) - 1, random.nextInt(6) - 1);
@@ -127,6 +134,7 @@ public final class ModelTest {
                 int i = messageOnTheWay();
                 due("message(" + i + ", " + k + ")", model.message(i, k), row.message(i, k));
             }
+            case 7 -> due("length(" + r + ")", model.length(r), row.length(r));
             default -> due("count(" + k + ")", model.count(k), row.count(k));
         }
     }
@@ -143,37 +151,6 @@ public final class ModelTest {
             return question.getAsInt();
         } catch (IndexOutOfBoundsException e) {
             return e.getClass() == IndexOutOfBoundsException.class ? Model.THROWS : Model.THROWS + 1;
-        }
-    }
-
-    private void askAll() {
-        for (int r = -1; r <= 6; r++) {
-            due("length(" + r + ")", model.length(r), row.length(r));
-            for (int q = -1; q <= 6; q++) {
-                due("same(" + r + ", " + q + ")", model.same(r, q), row.same(r, q));
-                for (int what = -1; what <= 4; what++) {
-                    due("about(" + r + ", " + q + ", " + what + ")", model.about(r, q, what), row.about(r, q, what));
-                }
-            }
-            for (int k = -1; k <= 4; k++) {
-                due("at(" + r + ", " + k + ")", model.at(r, k), row.at(r, k));
-            }
-            for (int place = -1; place <= model.length(r); place += 1 + random.nextInt(5)) {
-                askSign(r, place, 1 + random.nextInt(12), random.nextInt(4));
-            }
-        }
-        for (int d = -1; d <= model.count(0); d++) {
-            for (int what = -1; what <= 6; what++) {
-                due("deed(" + d + ", " + what + ")", model.deed(d, what), row.deed(d, what));
-            }
-        }
-        for (int i = -1; i <= model.count(1); i++) {
-            for (int what = -1; what <= 2; what++) {
-                due("message(" + i + ", " + what + ")", model.message(i, what), row.message(i, what));
-            }
-        }
-        for (int what = -1; what <= 3; what++) {
-            due("count(" + what + ")", model.count(what), row.count(what));
         }
     }
 
@@ -198,6 +175,7 @@ public final class ModelTest {
     }
 
     private void due(String call, int want, int got) {
+        calls++;
         check.due(run + call, want, got);
     }
 }
