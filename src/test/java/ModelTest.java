@@ -6,6 +6,9 @@ public final class ModelTest {
     /** An object answers 512 calls as promised, and a question for a sign is three of them. */
     private static final int CALLS = 510;
     private static final int LAST_CHANGE = 420;
+    private static final int[] WILD = {
+        Integer.MIN_VALUE, Integer.MAX_VALUE, Integer.MIN_VALUE + 1, Integer.MAX_VALUE - 1, -400, 400, 1 << 16, 1 << 24,
+    };
 
     private final Check check = new Check();
     private Random random;
@@ -117,7 +120,7 @@ public final class ModelTest {
     }
 
     private void ask(int r, int place) {
-        int k = random.nextInt(6) - 1;
+        int k = wild() ? wildNumber() : random.nextInt(6) - 1;
         int q = replica();
         switch (random.nextInt(9)) {
             case 0 -> due("cursor(" + r + ", " + k + ", " + place + ")", model.cursor(r, k, place), row.cursor(r, k, place));
@@ -158,17 +161,35 @@ public final class ModelTest {
         return random.nextInt(12) == 0;
     }
 
+    /** Now and then an argument is far outside. */
+    private boolean wild() {
+        return random.nextInt(100) == 0;
+    }
+
+    private int wildNumber() {
+        return WILD[random.nextInt(WILD.length)];
+    }
+
     private int replica() {
+        if (wild()) {
+            return wildNumber();
+        }
         return random.nextInt(40) == 0 ? random.nextInt(9) - 1 : random.nextInt(replicas);
     }
 
     private int placeIn(int r) {
+        if (wild()) {
+            return wildNumber();
+        }
         int length = Math.max(0, model.length(r));
         return odd() ? random.nextInt(length + 4) - 2 : random.nextInt(length + 1);
     }
 
     /** Mostly an early one, so that what waits comes to be done, and at times any. */
     private int messageOnTheWay() {
+        if (wild()) {
+            return wildNumber();
+        }
         int total = model.count(1);
         int bound = random.nextInt(3) == 0 ? total : Math.min(total, 12);
         return random.nextInt(30) == 0 ? random.nextInt(303) - 1 : random.nextInt(bound + 1);
